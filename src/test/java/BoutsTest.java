@@ -14,6 +14,7 @@ final class BoutsTest {
         kindsForce();
         kindsSpend();
         bounds();
+        matchOfSix();
         matchRefuses();
         wins();
         fight();
@@ -184,6 +185,10 @@ final class BoutsTest {
         // 26 - 36 while angle is not below -2, then 10 - 36
         int[] heavy = {0, -1, -2, -3, -5, -7, -9};
         for (int n = 0; n < heavy.length; n++) c.same("heavy by its angle, behind " + n, x.match(1, n, 0), heavy[n]);
+        x = two(law, 5, 61, 1, 0, 91, 0);
+        // 66 - 91, from -4 on 30 - 91
+        int[] half = {0, -2, -4, -10, -16, -22, -28, -30};
+        for (int n = 0; n < half.length; n++) c.same("heavy's half, behind " + n, x.match(1, n, 0), half[n]);
         x = two(law, 5, 21, 0, 0, 36, 0);
         int[] heavy0 = {0, -1, -3, -5};
         for (int n = 0; n < heavy0.length; n++) c.same("heavy with more 0, behind " + n, x.match(1, n, 0), heavy0[n]);
@@ -223,6 +228,19 @@ final class BoutsTest {
         c.same("spends 0 at least", x.match(1, 40, 1), 24);
         x = two("force told * 99; spends 0; hurts 0;", 1, 9, 9, 0, 0, 0);
         c.same("a kind's force is above 200", x.match(1, 1, 0), 21);
+    }
+
+    private static void matchOfSix() {
+        c.promise(10, "match");
+        ArmAgainstArm x = Check.under("force told; spends 0; hurts told;");
+        int[] told = {0, 10, 30, 60, 99, 45};
+        for (int t : told) x.arm(0, t, 0);
+        for (int a = 0; a < 6; a++) {
+            for (int b = 0; b < 6; b++) {
+                c.same("angle of " + a + b, x.match(10 * a + b, 1, 0), a == b ? -100 : (told[a] - told[b]) / 10);
+                c.same("hurt of " + a + b, x.match(10 * a + b, 1, 3), a == b ? -100 : told[a]);
+            }
+        }
     }
 
     private static void matchRefuses() {

@@ -9,7 +9,6 @@ import java.util.ArrayList;
 import java.util.Arrays;
 import java.util.Collections;
 import java.util.List;
-import java.util.regex.Matcher;
 import java.util.regex.Pattern;
 
 /** The face as the document's code block has it, and what can be seen in the source of LANGUAGE.md's rules. */
@@ -91,19 +90,15 @@ final class FaceTest {
     private static void words(String root) throws Exception {
         String source = Files.readString(Path.of(root, "src/main/java/ArmAgainstArm.java"));
         String bare = source.replaceAll("(?s)/\\*.*?\\*/", " ").replaceAll("//[^\n]*", " ").replaceAll("\"[^\"]*\"", "\"\"");
-        for (String word : new String[] {"throw", "throws", "try", "catch", "finally", "synchronized", "assert", "import",
-                "package", "enum", "record", "var", "equals", "hashCode", "toString", "System.currentTimeMillis", "Random",
-                "double", "float", "while"}) {
-            Matcher m = Pattern.compile("\\b" + Pattern.quote(word) + "\\b").matcher(bare);
-            c.that("no " + word, !m.find());
-        }
+        String[] words = {
+            "throw", "throws", "try", "catch", "finally", "synchronized", "assert", "import", "package", "equals",
+            "hashCode", "toString", "System.currentTimeMillis", "System.nanoTime", "Random", "Thread",
+        };
+        for (String word : words) c.that("no " + word, !Pattern.compile("\\b" + Pattern.quote(word) + "\\b").matcher(bare).find());
         c.that("no lambda", !bare.contains("->"));
         c.that("no method reference", !bare.contains("::"));
         c.that("signs 1 to 127", source.chars().allMatch(v -> v < 128 && v > 0));
-        int[] loops = {0};
-        Matcher m = Pattern.compile("\\bnew\\b").matcher(bare.substring(bare.indexOf("// ----") < 0 ? 0 : 0));
-        while (m.find()) loops[0]++;
-        c.that("made by constructors alone", loops[0] == madeInConstructors(bare));
+        c.same("made by constructors alone", bare.split("\\bnew\\b", -1).length - 1, madeInConstructors(bare));
     }
 
     /** How often 'new' stands in a field's row or in a constructor. */

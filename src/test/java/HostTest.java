@@ -54,7 +54,13 @@ final class HostTest {
         c.same("all 0", x.judge(1, 0, 1), 1);
         x.cell(1, 1, 10);
         c.same("all 0", x.judge(1, 0, 1), 2);
-        x.set(0, 1, 0);
+        ArmAgainstArm y = judging();
+        for (int sort = 0; sort < 3; sort++) {
+            y.arm(0, 10, 0);
+            Check.sheet(y, 0, sort, 5, 10, 15, 20, 25, 30, 30, 30);
+            y.sheet(0, sort, 8);
+            c.same("all 0, as two alike stand", y.judge(0, 0, 2), -1);
+        }
         c.same("of another sort", x.sheet(1, 0, 3), 1);
         c.same("of bytes", x.copy(1, 0, 3, 0, 0), -11);
     }

@@ -4,6 +4,7 @@ final class HowHardTest {
 
     public static void main(String[] args) {
         bestByAngle();
+        bestByPart();
         bestByHold();
         bestLeast();
         bestRefuses();
@@ -44,6 +45,29 @@ final class HowHardTest {
         x.set(1, 1, 1111);
         c.same("least plan that puts it down: 8 less, 0, 20, 20", x.best(0, 1, 0), 133);
         c.same("angle", x.best(0, 1, 1), 30);
+    }
+
+    private static void bestByPart() {
+        c.promise(14, "best");
+        int[] plans = {2000, 200, 20, 2};
+        for (int part = 0; part < 4; part++) {
+            ArmAgainstArm x = two("force (told = 1) * (tenth = " + (10 * part + 5) + ") * (hard = 2) * 40; spends 0; hurts 0;", 1, 0);
+            c.same("in part " + part + " alone", x.best(0, 1, 0), plans[part]);
+            c.same("angle", x.best(0, 1, 1), 4);
+        }
+        // The other one tires behind its PARTS 0 and 2: each plan finds it anew as it was.
+        ArmAgainstArm x = two("force (told = 1) * hard * 10 + (told = 0) * hold; spends (told = 0); hurts 0;", 1, 0);
+        x.set(1, 1, 1010);
+        int most = -31, plan = 0;
+        for (int p = 0; p < 256; p++) {
+            int digits = p / 64 * 1000 + p / 16 % 4 * 100 + p / 4 % 4 * 10 + p % 4;
+            x.set(0, 1, digits);
+            int angle = x.match(1, 40, 0);
+            if (angle > most) plan = digits;
+            most = Math.max(most, angle);
+        }
+        c.same("as found one by one", x.best(0, 1, 0), plan);
+        c.same("as found one by one", x.best(0, 1, 1), most);
     }
 
     private static void bestByHold() {

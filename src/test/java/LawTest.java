@@ -9,6 +9,7 @@ final class LawTest {
         textStands();
         textFaults();
         textOpen();
+        textBehindFaults();
         textFull();
         textWorth();
         force();
@@ -157,6 +158,20 @@ final class LawTest {
         for (Object[] row : rows) c.same("fault of '" + row[0] + "'", Check.fault((String) row[0]), (Integer) row[1]);
     }
 
+    private static void textBehindFaults() {
+        c.promise(4, "text");
+        ArmAgainstArm x = new ArmAgainstArm();
+        StringBuilder sums = new StringBuilder("force 1");
+        while (sums.length() < 150) sums.append("+1");
+        for (int i = 0; i < 4; i++) c.same("a long fault", Check.text(x, sums + ";spends"), -100 - sums.length() - 7);
+        c.same("a text behind them", Check.text(x, "force 3+4;spends 2+3;hurts 5*6;"), 1);
+        x.force(1);
+        x.arm(0, 0, 0);
+        c.same("force", x.asks(0, 0, 0, 0, 0), 7);
+        c.same("spends", x.asks(1, 0, 0, 0, 0), 5);
+        c.same("hurts", x.asks(2, 0, 0, 0, 0), 30);
+    }
+
     private static void textFull() {
         c.promise(4, "text");
         ArmAgainstArm x = new ArmAgainstArm();
@@ -188,6 +203,7 @@ final class LawTest {
             {"1 + 2 < 4", 1}, {"4 < 1 + 2", 0}, {"3 < 3", 0}, {"3 = 3", 1}, {"3 = 4", 0}, {"- 3 < 2", 1},
             {"not 0", 1}, {"not 5", 0}, {"not not 5", 1}, {"not 1 < 2", 0}, {"(not 1) < 2", 1}, {"not 0 + 1", 0},
             {"5 or 0", 1}, {"0 or 5", 1}, {"0 or 0", 0}, {"5 and 3", 1}, {"5 and 0", 0}, {"0 and 5", 0}, {"2 and 4", 1},
+            {"(2 and 4) * 5", 5}, {"(0 or 4) * 5", 5}, {"(4 or 0) * 5", 5}, {"(1 and 0) + 5", 5}, {"(not 0) * 5", 5},
             {"1 or 0 and 0", 1}, {"(1 or 0) and 0", 0}, {"not 1 or 1", 1}, {"not (1 or 1)", 0}, {"not 0 and 0", 0},
             {"0 - -3", 3}, {"- - 3", 3}, {"-2 * -3", 6}, {"5 - 2 * 2", 1}, {"-(2 - 9)", 7}, {"7 = told and 3 = more", 1},
             {"(1 < 2) = 1", 1}, {"(1 < 2) + (2 < 3) + (3 < 4)", 3}, {"0010", 10}, {"9999 - 9900", 99},

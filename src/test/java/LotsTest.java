@@ -75,6 +75,14 @@ final class LotsTest {
         x.arm(0, 20, 0);
         c.same("always", x.odds(5, 30, 1, 0), 1);
         c.same("always", x.odds(5, 30, 1, 1), 1);
+        for (int t : new int[] {35, 10, 40, 0}) x.arm(0, t, 0);
+        int[] told = {30, 20, 35, 10, 40, 0};
+        for (int ab = 0; ab < 66; ab++) {
+            int a = ab / 10, b = ab % 10;
+            boolean none = a == b || a > 5 || b > 5;
+            long due = none ? ArmAgainstArm.NO : told[a] - told[b] >= 10 ? 1 : 0;
+            c.same("odds of " + ab, x.odds(7, 3, ab, 0), due);
+        }
         c.same("never", x.odds(5, 30, 10, 0), 0);
         c.same("never", x.odds(5, 30, 10, 1), 1);
     }

@@ -7,6 +7,9 @@ import java.util.List;
  */
 final class Model {
     private static final int[] ABOVE = {-1, 0, 0, 1, 2, 0};
+    private static final List<String> NAMES = List.of("told", "more", "hold", "hard", "angle", "tenth");
+    private static final List<List<String>> LEVELS =
+        List.of(List.of("or"), List.of("and"), List.of("<", "="), List.of("+", "-"), List.of("*"));
 
     private record One(int kind, int told, int more) { }
     private record Token(String word, int place) { }
@@ -59,11 +62,19 @@ final class Model {
     }
 
     private static boolean isNumber(String w) {
-        return w.matches("[0-9]{1,4}");
+        return w.length() < 5 && w.charAt(0) >= '0' && w.charAt(0) <= '9';
     }
 
     private static boolean isName(String w) {
-        return w.matches("told|more|hold|hard|angle|tenth");
+        return NAMES.contains(w);
+    }
+
+    private static boolean isPlan(int v) {
+        return v >= 0 && v < 4000 && Integer.toString(v).chars().allMatch(d -> d < '4');
+    }
+
+    private static int hardAt(int plan, int tenth) {
+        return Integer.toString(10000 + plan).charAt(1 + tenth / 10) - '0';
     }
 
     /** By what stands open, without a grammar: each ( keeps how many not and - stood ahead of it, and if < or = was. */
@@ -156,23 +167,22 @@ final class Model {
     }
 
     /** The last of these signs outside of any ( ), that stands between two values; -1: none. */
-    private static int lastOf(List<Token> e, String... signs) {
+    private static int lastOf(List<Token> e, List<String> signs) {
         int deep = 0;
         for (int i = e.size() - 1; i > 0; i--) {
             String w = e.get(i).word;
             if (w.equals(")")) deep++;
             if (w.equals("(")) deep--;
             String ahead = e.get(i - 1).word;
-            if (deep == 0 && List.of(signs).contains(w) && (ahead.equals(")") || isNumber(ahead) || isName(ahead))) return i;
+            if (deep == 0 && signs.contains(w) && (ahead.equals(")") || isNumber(ahead) || isName(ahead))) return i;
         }
         return -1;
     }
 
     private static int worth(List<Token> e, int[] names) {
-        String[][] levels = {{"or"}, {"and"}, {"<", "="}, {"+", "-"}, {"*"}};
         for (int level = 0; level < 5; level++) {
             if (level == 2 && e.get(0).word.equals("not")) return worth(e.subList(1, e.size()), names) == 0 ? 1 : 0;
-            int i = lastOf(e, levels[level]);
+            int i = lastOf(e, LEVELS.get(level));
             if (i < 0) continue;
             int x = worth(e.subList(0, i), names), y = worth(e.subList(i + 1, e.size()), names);
             switch (e.get(i).word) {
@@ -189,7 +199,7 @@ final class Model {
         if (first.equals("-")) return -worth(e.subList(1, e.size()), names);
         if (first.equals("(")) return worth(e.subList(1, e.size() - 1), names);
         if (isNumber(first)) return Integer.parseInt(first);
-        return names[List.of("told", "more", "hold", "hard", "angle", "tenth").indexOf(first)];
+        return names[NAMES.indexOf(first)];
     }
 
     private int says(int text, int part, int a, int holdNow, int hard, int angle, int tenth) {
@@ -242,7 +252,7 @@ final class Model {
             hold[a] = v;
             return was;
         }
-        if (what == 1 && v >= 0 && String.format("%04d", v).matches("[0-3]{4}")) {
+        if (what == 1 && isPlan(v)) {
             int was = plan[a];
             plan[a] = v;
             return was;
@@ -286,8 +296,8 @@ final class Model {
     private End bout(int text, int[] two, int angle, int[] holds, int[] plans, int[] later, int n) {
         int h = holds[0], k = holds[1], hurt = 0, t = 0;
         for (; t < n && t < 40 && angle > -30 && angle < 30; t++) {
-            int hardA = t < late(two[0]) + later[0] ? 0 : String.format("%04d", plans[0]).charAt(t / 10) - '0';
-            int hardB = t < late(two[1]) + later[1] ? 0 : String.format("%04d", plans[1]).charAt(t / 10) - '0';
+            int hardA = t < late(two[0]) + later[0] ? 0 : hardAt(plans[0], t);
+            int hardB = t < late(two[1]) + later[1] ? 0 : hardAt(plans[1], t);
             int f = forceOf(text, two[0], h, hardA, angle, t), g = forceOf(text, two[1], k, hardB, -angle, t);
             hurt = Math.max(hurt, says(text, 2, two[0], h, hardA, angle, t));
             h = holdThen(text, two[0], h, hardA, angle, t);
@@ -343,7 +353,7 @@ final class Model {
     private int[] bestOf(int a, int b) {
         int[] best = null;
         for (int p = 0; p <= 3333; p++) {
-            if (!String.format("%04d", p).matches("[0-3]{4}")) continue;
+            if (!isPlan(p)) continue;
             End e = by(a, b, hold[a], p);
             if (best == null || e.angle > best[1] || e.angle == best[1] && e.holdA > best[2]) {
                 best = new int[] {p, e.angle, e.holdA};

@@ -162,6 +162,21 @@ final class ToldTest {
         c.same("the law stays", x.count(2), 0);
     }
 
+    private static void filmOfSix() {
+        int[] told = {0, 10, 30, 60, 99, 45};
+        ArmAgainstArm x = of("force told; spends 0; hurts 0;", told);
+        for (int a = 0; a < 6; a++) {
+            for (int b = 0; b < 6; b++) {
+                if (a == b) continue;
+                int angle = Math.max(-30, Math.min(30, 5 * ((told[a] - told[b]) / 10)));
+                x.film(0, 10 * a + b, 1);
+                Check.sheet(x, 1, 2, angle);
+                c.same("film of " + a + b, x.judge(0, a, b), -1);
+                c.same("film of " + a + b + " by hand", x.judge(1, a, b), -1);
+            }
+        }
+    }
+
     private static void film() {
         c.promise(25, "film");
         ArmAgainstArm x = of("force told; spends 0; hurts 0;", 30, 20);
@@ -189,6 +204,7 @@ final class ToldTest {
         Check.sheet(x, 1, 2, -5, -10, -15);
         c.same("below the line", x.judge(0, 1, 0), -1);
         c.same("below the line", x.judge(1, 1, 0), -1);
+        filmOfSix();
         x.sheet(2, 0, 40);
         c.same("a sheet of bytes becomes one of ints", x.film(2, 1, 1), 1);
         c.same("of ints", x.copy(2, 0, 1, 0, 1), 1);
