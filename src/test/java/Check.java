@@ -7,6 +7,11 @@ final class Check {
         promise = "promise " + number + " (" + call + ")";
     }
 
+    /** A sentence of the document's "Terms". */
+    void terms(String sentence) {
+        promise = "terms (" + sentence + ")";
+    }
+
     void same(String what, long got, long want) {
         if (got == want) {
             passed++;
