@@ -1,3 +1,5 @@
+import java.io.PrintWriter;
+import java.io.StringWriter;
 import java.lang.reflect.Constructor;
 import java.lang.reflect.Field;
 import java.lang.reflect.Member;
@@ -8,8 +10,14 @@ import java.nio.file.Path;
 import java.util.ArrayList;
 import java.util.Arrays;
 import java.util.Collections;
+import java.util.HashMap;
+import java.util.HashSet;
 import java.util.List;
+import java.util.Map;
+import java.util.Set;
+import java.util.regex.Matcher;
 import java.util.regex.Pattern;
+import java.util.spi.ToolProvider;
 
 /** The face as the document's code block has it, and what can be seen in the source of LANGUAGE.md's rules. */
 final class FaceTest {
@@ -29,7 +37,11 @@ final class FaceTest {
         constants();
         methods();
         members();
+        fields();
         words(args[0]);
+        library(args[0]);
+        methodLengths(args[0]);
+        depth();
         c.end();
     }
 
@@ -89,7 +101,7 @@ final class FaceTest {
 
     private static void words(String root) throws Exception {
         String source = Files.readString(Path.of(root, "src/main/java/ArmAgainstArm.java"));
-        String bare = source.replaceAll("(?s)/\\*.*?\\*/", " ").replaceAll("//[^\n]*", " ").replaceAll("\"[^\"]*\"", "\"\"");
+        String bare = bare(root);
         String[] words = {
             "throw", "throws", "try", "catch", "finally", "synchronized", "assert", "import", "package", "equals",
             "hashCode", "toString", "System.currentTimeMillis", "System.nanoTime", "Random", "Thread",
@@ -112,5 +124,112 @@ final class FaceTest {
             if (constructor || field) found += line.split("\\bnew\\b", -1).length - 1;
         }
         return found;
+    }
+
+    private static String bare(String root) throws Exception {
+        String source = Files.readString(Path.of(root, "src/main/java/ArmAgainstArm.java"));
+        return source.replaceAll("(?s)/\\*.*?\\*/", " ").replaceAll("//[^\n]*", " ").replaceAll("\"[^\"]*\"", "\"\"");
+    }
+
+    /** Rules 5 and 11: static fields are final and of the sorts told; a class has some twenty others. */
+    private static void fields() {
+        List<String> sorts = List.of("int", "long", "boolean", "char", "class java.lang.String", "class [I", "class [J", "class [C", "class [B");
+        List<Class<?>> all = new ArrayList<>(Arrays.asList(ArmAgainstArm.class.getDeclaredClasses()));
+        all.add(ArmAgainstArm.class);
+        for (Class<?> one : all) {
+            int own = 0;
+            for (Field f : one.getDeclaredFields()) {
+                if (!Modifier.isStatic(f.getModifiers())) own++;
+                else c.that(f + " is a constant", Modifier.isFinal(f.getModifiers()) && sorts.contains(f.getType().toString()));
+            }
+            c.that(one + " has twenty fields at most", own <= 20);
+        }
+    }
+
+    /** Rule 4: of the library's classes only what the file needs, all of which the rule lists. */
+    private static void library(String root) throws Exception {
+        List<String> used = List.of("Math.max", "Math.min", "Integer.bitCount", "System.arraycopy");
+        Matcher m = Pattern.compile("\\b(Math|Integer|Long|System|Arrays|List|ArrayList|Character|Objects|String)\\.\\w+").matcher(bare(root));
+        while (m.find()) c.that(m.group() + " is listed", used.contains(m.group()));
+        c.that("no for over a list", !Pattern.compile("for \\([\\w\\[\\]]+ \\w+ :").matcher(bare(root)).find());
+        c.that("no while without a bound", !Pattern.compile("\\bwhile\\b").matcher(bare(root)).find());
+        c.that("no double or float", !Pattern.compile("\\b(double|float)\\b").matcher(bare(root)).find());
+    }
+
+    /** Rule 11: a method has sixty lines at most. */
+    private static void methodLengths(String root) throws Exception {
+        int from = -1, at = 0;
+        String name = "";
+        for (String line : bare(root).split("\n")) {
+            at++;
+            if (line.matches(" +[\\w\\[\\] ]*\\w+\\([^;]*\\) \\{") && !line.matches(" +(if|for|while|switch|else)\\b.*")) {
+                from = at;
+                name = line.trim();
+            }
+            if (from >= 0 && line.matches(" {4}\\}| {8}\\}")) {
+                c.that(name + " is short", at - from < 60);
+                from = -1;
+            }
+        }
+    }
+
+    /** Rule 11: calls that are no recursion go eight deep at most. */
+    private static void depth() {
+        if (ToolProvider.findFirst("javap").isEmpty()) {
+            System.out.println("no javap here: how deep calls go was not looked at");
+            return;
+        }
+        Map<String, Set<String>> calls = calls();
+        c.that("calls are found", calls.size() > 100);
+        int deepest = 0;
+        for (String method : calls.keySet()) deepest = Math.max(deepest, deep(calls, method, new ArrayList<>()));
+        c.that("deepest " + deepest, deepest <= 8);
+    }
+
+    /** How deep calls go from a method on, one that stands open already (a recursion) counted once. */
+    private static int deep(Map<String, Set<String>> calls, String method, List<String> open) {
+        if (open.contains(method)) return 0;
+        open.add(method);
+        int most = 0;
+        for (String further : calls.getOrDefault(method, Set.of())) {
+            if (!reaches(calls, further, method, new HashSet<>())) most = Math.max(most, deep(calls, further, open));
+        }
+        // Those that call one another count as one, with what the deepest of them calls.
+        for (String further : calls.getOrDefault(method, Set.of())) {
+            if (!further.equals(method) && reaches(calls, further, method, new HashSet<>())) most = Math.max(most, deep(calls, further, open) - 1);
+        }
+        open.remove(method);
+        return 1 + most;
+    }
+
+    private static boolean reaches(Map<String, Set<String>> calls, String from, String to, Set<String> been) {
+        if (from.equals(to)) return true;
+        if (!been.add(from)) return false;
+        for (String further : calls.getOrDefault(from, Set.of())) if (reaches(calls, further, to, been)) return true;
+        return false;
+    }
+
+    /** Which methods of the file each one calls, as javap tells. */
+    private static Map<String, Set<String>> calls() {
+        StringWriter told = new StringWriter();
+        List<String> args = new ArrayList<>(List.of("-c", "-p", "-cp", System.getProperty("java.class.path"), "ArmAgainstArm"));
+        for (Class<?> one : ArmAgainstArm.class.getDeclaredClasses()) args.add(one.getName());
+        ToolProvider.findFirst("javap").orElseThrow().run(new PrintWriter(told), new PrintWriter(told), args.toArray(new String[0]));
+        Map<String, Set<String>> calls = new HashMap<>();
+        String in = "", method = "";
+        for (String line : told.toString().split("\n")) {
+            Matcher head = Pattern.compile(".*\\bclass (\\S+) .*\\{").matcher(line);
+            Matcher own = Pattern.compile("  (?:.* )?([\\w$]+)\\(.*\\);").matcher(line);
+            Matcher call = Pattern.compile(".*// Method (?:(ArmAgainstArm[\\w$]*)\\.)?\"?([\\w<>]+)\"?:.*").matcher(line);
+            if (head.matches()) {
+                in = head.group(1);
+            } else if (own.matches()) {
+                method = in + "." + (own.group(1).equals(in) ? "<init>" : own.group(1));
+                calls.put(method, new HashSet<>());
+            } else if (call.matches() && calls.containsKey(method)) {
+                calls.get(method).add((call.group(1) == null ? in : call.group(1)) + "." + call.group(2));
+            }
+        }
+        return calls;
     }
 }

@@ -56,10 +56,11 @@ final class HowHardTest {
             c.same("angle", x.best(0, 1, 1), 4);
         }
         // The other one tires behind its PARTS 0 and 2: each plan finds it anew as it was.
-        ArmAgainstArm x = two("force (told = 1) * hard * 10 + (told = 0) * hold; spends (told = 0); hurts 0;", 1, 0);
-        x.set(1, 1, 1010);
+        ArmAgainstArm x = tiring();
         int most = -31, plan = 0;
         for (int p = 0; p < 256; p++) {
+            // An object has 512 calls.
+            if (p == 128) x = tiring();
             int digits = p / 64 * 1000 + p / 16 % 4 * 100 + p / 4 % 4 * 10 + p % 4;
             x.set(0, 1, digits);
             int angle = x.match(1, 40, 0);
@@ -68,6 +69,12 @@ final class HowHardTest {
         }
         c.same("as found one by one", x.best(0, 1, 0), plan);
         c.same("as found one by one", x.best(0, 1, 1), most);
+    }
+
+    private static ArmAgainstArm tiring() {
+        ArmAgainstArm x = two("force (told = 1) * hard * 10 + (told = 0) * hold; spends (told = 0); hurts 0;", 1, 0);
+        x.set(1, 1, 1010);
+        return x;
     }
 
     private static void bestByHold() {

@@ -163,7 +163,7 @@ final class LawTest {
         ArmAgainstArm x = new ArmAgainstArm();
         StringBuilder sums = new StringBuilder("force 1");
         while (sums.length() < 150) sums.append("+1");
-        for (int i = 0; i < 4; i++) c.same("a long fault", Check.text(x, sums + ";spends"), -100 - sums.length() - 7);
+        for (int i = 0; i < 2; i++) c.same("a long fault", Check.text(x, sums + ";spends"), -100 - sums.length() - 7);
         c.same("a text behind them", Check.text(x, "force 3+4;spends 2+3;hurts 5*6;"), 1);
         x.force(1);
         x.arm(0, 0, 0);

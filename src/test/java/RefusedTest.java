@@ -87,6 +87,16 @@ final class RefusedTest {
         return x;
     }
 
+    /** Two ARMS, another LAW, no IMAGE. */
+    static ArmAgainstArm noImage() {
+        ArmAgainstArm x = Check.under("force told*2;spends 2;hurts 5;");
+        x.arm(1, 60, 3);
+        x.arm(4, 50, 6);
+        x.set(0, 0, 7);
+        x.set(1, 1, 2103);
+        return x;
+    }
+
     private static void states() {
         c.promise(1, "what is asked changes nothing");
         c.same("four arms", some().count(0), 4);
@@ -417,6 +427,7 @@ final class RefusedTest {
         firsts(odds, wrong(no, 0, -1), wrong(no, 0, 100000), wrong(no, 1, 0), wrong(no, 1, 31), wrong(no, 2, 11), wrong(no, 3, 2), wrong(no, 3, -1));
         unchanged(odds);
         asks(new Row(29, "back", ArmAgainstArm::new, (x, v) -> x.back()), -3);
+        asks(new Row(29, "back", RefusedTest::noImage, (x, v) -> x.back()), -3);
     }
 
     // ---- 30 to 34: the host
