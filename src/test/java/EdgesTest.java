@@ -167,6 +167,15 @@ final class EdgesTest {
         x = of("force (told=1)*99;spends hard;hurts 0;", 1, 0);
         c.same("DOWN whatever either does", x.even(0, 1), 1);
         c.that("by another PLAN it would have more HOLD, no more", x.best(0, 1, 2) > x.match(1, 40, 1));
+        // 0 can mend what 1 does to it; against one like itself there would be nothing to mend.
+        x = of("force (told=1)*(angle<0)*(hard=3)*10+(told=0)*(tenth=0)*50;spends 0;hurts 0;", 1, 0);
+        c.same("-5 by its own PLAN", x.match(1, 40, 0), -5);
+        c.same("0 by another one", x.best(0, 1, 1), 0);
+        c.same("a would, against just this b", x.even(0, 1), 0);
+        c.same("b would, against just this a", x.even(1, 0), 0);
+        x.set(0, 1, 3333);
+        c.same("neither would", x.even(0, 1), 1);
+        c.same("neither would", x.even(1, 0), 1);
     }
 
     private static void line() {
@@ -240,6 +249,12 @@ final class EdgesTest {
         for (int a = 0; a < 6; a++) c.same("all below " + a, x.beats(a), (1 << a) - 1);
         x = of(BY_TOLD, 50, 40, 30, 20, 10, 0);
         for (int a = 0; a < 6; a++) c.same("all above " + a, x.beats(a), 63 - ((2 << a) - 1));
+        // HOLD as each has it now: two tenths of rest leave them two apart at least, that is 1 of ANGLE a tenth.
+        x = of("force hold*8;spends 0;hurts 0;", 0, 0, 0, 0, 0, 0);
+        for (int a = 0; a < 6; a++) x.set(a, 0, 4 + 4 * a);
+        for (int a = 0; a < 6; a++) c.same("all with less HOLD than " + a, x.beats(a), (1 << a) - 1);
+        for (int a = 0; a < 6; a++) x.set(a, 0, 24 - 4 * a);
+        for (int a = 0; a < 6; a++) c.same("all with less HOLD than " + a, x.beats(a), 63 - ((2 << a) - 1));
     }
 
     private static void rings() {
